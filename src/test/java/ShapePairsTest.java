@@ -28,12 +28,26 @@ public final class ShapePairsTest {
         for (int lane = 0; lane <= 5; lane++) allPairs(lane, WHOLE);
         allPairs(6, floats);
         allPairs(7, doubles);
+        for (int lane = 4; lane <= 7; lane++) drawnPairs(lane);
         DUE.end();
     }
 
     private static void allPairs(int lane, long[] words) {
         for (long x : words) {
             for (long y : words) onePair(lane, x, y);
+        }
+    }
+
+    /** Words drawn by a fixed rule; y at times near x, as only then much is left of x by y. */
+    private static void drawnPairs(int lane) {
+        long state = 12345;
+        for (int k = 0; k < 4000; k++) {
+            state = state * 6364136223846793005L + 1442695040888963407L;
+            long x = state ^ (state >>> 29);
+            state = state * 6364136223846793005L + 1442695040888963407L;
+            long other = state ^ (state >>> 29);
+            long y = k % 2 == 0 ? other : x ^ (lane == 6 ? other >>> (33 + k % 9) : other >>> (2 + k % 60));
+            onePair(lane, x, y);
         }
     }
 
