@@ -263,6 +263,15 @@ public final class EdgesShapeTest {
         for (double[] row : rows) floating(row[0], 8, row[1], row[2]);
         doubles(7 * Double.MIN_VALUE, 8, 3 * Double.MIN_VALUE, Double.MIN_VALUE);
         doubles(-Double.MAX_VALUE, 8, Double.MIN_VALUE, -0.0);
+        // 0.0 keeps its sign by numbers of the least power, too
+        for (long y : new long[] {1, 0x007fffffL, 0x00800000L, 0x80000001L}) {
+            shaped(6, 0, 8, y, 0);
+            shaped(6, LEAST, 8, y, LEAST);
+        }
+        for (long y : new long[] {1, 0x000fffffffffffffL, 0x0010000000000000L, LEAST_LONG + 1}) {
+            shaped(7, 0, 8, y, 0);
+            shaped(7, LEAST_LONG, 8, y, LEAST_LONG);
+        }
         // rests that go down to the least power, with and without a leading digit
         shaped(6, 0x01c00000L, 8, 0x01800000L, 0x01000000L);
         shaped(6, 0x01e00000L, 8, 0x01c00000L, 0x00800000L);

@@ -1,4 +1,5 @@
 import java.lang.reflect.Constructor;
+import java.lang.reflect.Field;
 import java.lang.reflect.Method;
 import java.lang.reflect.Modifier;
 import java.nio.file.Files;
@@ -30,6 +31,9 @@ public final class FaceTest {
     public static void main(String[] args) throws Exception {
         constants();
         methods();
+        classesInside();
+        staticFields();
+        shortMethods();
         text();
         DUE.end();
     }
@@ -61,6 +65,47 @@ public final class FaceTest {
         for (Method m : PatchAsks.class.getDeclaredMethods()) {
             boolean hides = Modifier.isPrivate(m.getModifiers()) && names.contains(m.getName());
             DUE.is("a private " + m.getName(), hides ? 1 : 0, 0);
+        }
+    }
+
+    private static void classesInside() {
+        Class<?>[] inside = PatchAsks.class.getDeclaredClasses();
+        DUE.is("at most twelve classes", inside.length + 1 <= 12 ? 1 : 0, 1);
+        for (Class<?> c : inside) {
+            DUE.is(c + " is private or package-visible", c.getModifiers() & (Modifier.PUBLIC | Modifier.PROTECTED), 0);
+            DUE.is(c + " is static", c.getModifiers() & Modifier.STATIC, Modifier.STATIC);
+            for (Method m : c.getDeclaredMethods()) {
+                for (String open : FACE) DUE.is("an inner " + m.getName(), open.contains(" " + m.getName() + "(") ? 1 : 0, 0);
+            }
+        }
+    }
+
+    private static void staticFields() {
+        int own = 0;
+        for (Field f : PatchAsks.class.getDeclaredFields()) {
+            boolean constant = Modifier.isStatic(f.getModifiers());
+            if (constant) DUE.is(f + " is final", Modifier.isFinal(f.getModifiers()) ? 1 : 0, 1);
+            else own++;
+        }
+        DUE.is("at most twenty fields", own <= 20 ? 1 : 0, 1);
+        for (Method m : PatchAsks.class.getDeclaredMethods()) {
+            DUE.is(m.getName() + " takes at most seven", m.getParameterCount() <= 7 ? 1 : 0, 1);
+        }
+    }
+
+    /** No method has more than sixty lines: they begin at four or eight spaces and end at a brace there. */
+    private static void shortMethods() throws Exception {
+        String begun = null;
+        int lines = 0;
+        for (String line : Files.readAllLines(Path.of("src/main/java/PatchAsks.java"))) {
+            lines++;
+            if (line.matches("( {4}| {8})[a-zA-Z].*\\) \\{") && !line.matches(" *(if|for|while|switch) .*")) {
+                begun = line;
+                lines = 1;
+            } else if (begun != null && line.matches("( {4}| {8})\\}") && line.indexOf('}') == begun.length() - begun.stripLeading().length()) {
+                DUE.is(begun.trim() + " has at most sixty lines", lines <= 60 ? 1 : 0, 1);
+                begun = null;
+            }
         }
     }
 
