@@ -21,6 +21,10 @@ public final class PatchAsks {
     private static final int ASK_COLOUR = 0, ASK_STRENGTH = 1, ASK_PLAY = 2, ASK_HEARD = 3, ASK_EDITS = 4,
             ASK_NUMBER = 5;
 
+    // written out, as LANGUAGE.md's list of the library has no constants of Integer and Long
+    private static final int LEAST_INT = 0x80000000, GREATEST_INT = 0x7fffffff;
+    private static final long LEAST_LONG = 0x8000000000000000L, GREATEST_LONG = 0x7fffffffffffffffL;
+
     private final Thing[] boxes;
     private final int[] traced;
     private final int[] timesFound;
@@ -36,8 +40,8 @@ public final class PatchAsks {
         boxes = new Thing[BOXES];
         traced = new int[MOST_TRACED];
         timesFound = new int[TROUBLE + 1];
-        floats = new FloatForm(23, 127, Integer.MIN_VALUE);
-        doubles = new FloatForm(52, 1023, Long.MIN_VALUE);
+        floats = new FloatForm(23, 127, LEAST_INT);
+        doubles = new FloatForm(52, 1023, LEAST_LONG);
     }
 
     // ---- things
@@ -530,7 +534,7 @@ public final class PatchAsks {
             case WAY_SIGN_OF: return form.signed(form.sizeOf(x), y < 0);
             case WAY_LEFT: return form.left(x, y);
             case WAY_LONG: return form.cut(x);
-            case WAY_INT: return Math.max(Integer.MIN_VALUE, Math.min(Integer.MAX_VALUE, form.cut(x)));
+            case WAY_INT: return Math.max(LEAST_INT, Math.min(GREATEST_INT, form.cut(x)));
             default: return form.whole(x, way);
         }
     }
@@ -858,7 +862,7 @@ public final class PatchAsks {
             long size = sizeOf(word);
             int power = powerOf(size);
             if (power < 0) return 0;
-            if (power > 62) return word < 0 ? Long.MIN_VALUE : Long.MAX_VALUE;
+            if (power > 62) return word < 0 ? LEAST_LONG : GREATEST_LONG;
             int shift = power - fractionBits;
             long digits = digitsOf(size);
             long cutSize = shift < 0 ? digits >>> -shift : digits << shift;

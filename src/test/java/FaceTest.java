@@ -25,7 +25,8 @@ public final class FaceTest {
     private static final String[] RULED_OUT = {
         "->", "::", "\\btry\\b", "\\bcatch\\b", "\\bthrow\\b", "\\bfinally\\b", "\\bsynchronized\\b", "\\bassert\\b",
         "\\bimport\\b", "\\bpackage\\b", "\\bprotected\\b", "\\bfloat\\b", "\\bdouble\\b", "\\bFloat\\.", "\\bDouble\\.",
-        "Exact\\b", "\\bRandom\\b", "\\bThread\\b", "currentTimeMillis", "nanoTime", "@"
+        "Exact\\b", "\\bRandom\\b", "\\bThread\\b", "currentTimeMillis", "nanoTime", "@",
+        "M(IN|AX)_VALUE"
     };
 
     public static void main(String[] args) throws Exception {
